@@ -37,6 +37,19 @@ public final class ComparedTest {
         for (int[] d : due) {
             for (int what = 0; what < 4; what++) check.gives("both(" + d[0] + ", " + d[1] + ", " + what + ")", x.both(d[0], d[1], what), d[what + 2]);
         }
+        x.make(1, 1, 2, 3);
+        x.make(1, 1, 2, 5);
+        check.gives("the other one has all", x.both(2, 3, 3), 7);
+        check.gives("the first one has all", x.both(3, 2, 3), 7);
+        x.strike(3, 9);
+        check.gives("the last one alone", x.both(2, 3, 3), 7);
+        x.strike(2, 1);
+        check.gives("the first one alone", x.both(2, 3, 3), 1);
+        check.gives("the first one alone", x.both(3, 2, 3), 1);
+        x.strike(3, 1);
+        x.strike(3, 7);
+        check.refuses("alike", x.both(3, 2, 3), 5);
+        x = done();
         check.gives("with itself", x.both(0, 0, 0), 11);
         check.gives("with itself", x.both(0, 0, 1), 0);
         check.gives("with itself", x.both(0, 0, 2), 0);
@@ -69,6 +82,9 @@ public final class ComparedTest {
         for (int[] d : due) {
             for (int what = 0; what < 5; what++) check.gives("lead(" + d[0] + ", " + d[1] + ", " + what + ")", x.lead(d[0], d[1], what), d[what + 2]);
         }
+        x.make(1, 5, 1, 2);
+        int[] late = {0, 6, -2, 0, 0};
+        for (int what = 0; what < 5; what++) check.gives("5 6 and 0 1", x.lead(3, 2, what), late[what]);
         check.begin("sieve a from 5 by 1 many 7 flavius; sieve b from 5 by 1 many 7 flavius;");
         x = check.house;
         // the first one has 5 10 11, the other one 6 7 8 9
@@ -159,6 +175,10 @@ public final class ComparedTest {
         check.refuses("fits(2, 0, 0)", x.fits(2, 0, 0), 2);
         check.refuses("fits(0, 3, 0)", x.fits(0, 3, 0), 2);
         check.refuses("fits(0, -1, 0)", x.fits(0, -1, 0), 2);
+        check.begin("sieve a from 1 by 1 many 9 flavius; list b 10; list c 0 1;");
+        check.gives("one number that is not in", check.house.fits(0, 0, 2), 0);
+        check.gives("the first one is not in", check.house.fits(0, 1, 2), 0);
+        check.refuses("one number that is not in", check.house.guess(0), 5);
         check.begin("sieve a from 1 by 1 many 9 flavius; list b 2 4; list c 9; list d 8 9 10;");
         check.gives("all are in", check.house.fits(0, 0, 0), 2);
         check.gives("but not next to each other", check.house.fits(0, 0, 2), 0);
@@ -211,6 +231,9 @@ public final class ComparedTest {
         check.gives("one has none", x.apart(2, 3, 0), 4);
         check.gives("one has none", x.apart(3, 2, 0), 4);
         check.gives("like ones", x.apart(3, 2, 1), 3);
+        check.gives("longer by one", x.longer(2, 4), 4);
+        check.gives("one has none", x.apart(2, 3, 0), 5);
+        check.gives("one has none", x.apart(3, 2, 0), 5);
         x.strike(3, 1);
         check.gives("none is like", x.apart(3, 2, 1), 0);
         check.gives("the first", x.apart(3, 2, 0), 1);

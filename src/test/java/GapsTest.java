@@ -66,6 +66,14 @@ public final class GapsTest {
         int[][] many = {{2, 4}, {4, 4}, {6, 2}, {1, 0}, {0, 0}, {-1, 0}, {LEAST, 0}, {MOST, 0}};
         for (int[] m : many) check.gives("gapsOf(0, " + m[0] + ")", x.gapsOf(0, m[0]), m[1]);
         check.refuses("gapsOf(1, 2)", x.gapsOf(1, 2), 2);
+        int[] two = {1, 1, 1, 1};
+        for (int what = 0; what < 4; what++) check.gives("gaps of two numbers", without(2).gaps(0, what), two[what]);
+        x = without(10, 3, 6, 7);
+        check.gives("gaps that come once count", x.gaps(0, 3), 3);
+        check.gives("a greater one later", x.gaps(0, 1), 4);
+        check.gives("rests, that the next call must not see", x.rests(0, 999, -1), 7);
+        check.gives("gaps behind rests", x.gaps(0, 3), 3);
+        check.gives("usual behind rests", x.usual(0), 1);
         x = without(2, 1);
         for (int what = 0; what < 4; what++) check.refuses("gaps of one number", x.gaps(0, what), 5);
         check.gives("gapsOf of one number", x.gapsOf(0, 1), 0);
@@ -80,6 +88,8 @@ public final class GapsTest {
         check.refuses("usual(1)", x.usual(1), 2);
         check.refuses("usual(-1)", x.usual(-1), 2);
         check.refuses("one number alone", without(2, 2).usual(0), 5);
+        check.gives("two numbers", without(2).usual(0), 1);
+        check.gives("the last gap", without(3, 2).usual(0), 2);
         check.begin("sieve a from 999 by 99 many 600 fixed 2 rounds 1;");
         check.gives("round", check.house.round(0), 300);
         check.gives("usual", check.house.usual(0), 198);
@@ -182,11 +192,14 @@ public final class GapsTest {
 
     private static void progression() {
         SieveHouse x = done();
-        int[][] due = {{6, 4, 3}, {2, 2, 1}, {5, 1, 1}, {36, 2, 1}, {12, 4, 1}, {10, 2, 3}, {MOST, 1, 1}};
+        int[][] due = {{6, 4, 3}, {2, 2, 1}, {5, 1, 1}, {36, 2, 1}, {12, 4, 1}, {10, 2, 3}, {1, 1, 1}, {MOST, 1, 1}};
         for (int[] d : due) {
             check.gives("progression(0, " + d[0] + ", 0)", x.progression(0, d[0], 0), d[1]);
             check.gives("progression(0, " + d[0] + ", 1)", x.progression(0, d[0], 1), d[2]);
         }
+        check.gives("4 to 7", without(7, 3).progression(0, 1, 1), 4);
+        check.gives("4 to 7", without(7, 3).progression(0, 1, 0), 4);
+        x = done();
         check.refuses("progression(0, 0, 0)", x.progression(0, 0, 0), 1);
         check.refuses("progression(0, -6, 0)", x.progression(0, -6, 0), 1);
         check.refuses("progression(0, 6, 2)", x.progression(0, 6, 2), 1);

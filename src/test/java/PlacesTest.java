@@ -86,6 +86,9 @@ public final class PlacesTest {
         check.gives("till(0, 11)", x.till(0, 11), 2);
         check.begin("sieve a from 1 by 1 many 2 told 9 9 2;");
         check.gives("rounds that strike nothing count", check.house.till(0, 1), 3);
+        check.begin("sieve a from 0 by 1 many 9 lucky;");
+        check.refuses("done at once, though 2 at place 3 could strike", check.house.till(0, 8), 5);
+        check.gives("done at once", check.house.would(0, 9), 8);
     }
 
     private static void rank() {
@@ -197,6 +200,8 @@ public final class PlacesTest {
         x.strike(0, 21);
         check.gives("those by hand, too", x.gone(0, -1), 10);
         check.gives("gone(0, 4)", x.gone(0, 4), 21);
+        x.strike(0, 1);
+        check.gives("the least number there was", x.gone(0, 0), 1);
         check.refuses("gone(0, -2)", x.gone(0, -2), 1);
         check.refuses("gone(1, -2)", x.gone(1, -2), 1);
         check.refuses("gone(1, -1)", x.gone(1, -1), 2);

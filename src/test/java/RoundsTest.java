@@ -44,6 +44,11 @@ public final class RoundsTest {
             check.refuses("all: " + law, check.house.all(0), 5);
             check.gives("would: " + law, check.house.would(0, 2), check.house.number(0, 2));
         }
+        check.begin("sieve a from 4 by 1 many 9 prime;");
+        check.gives("10 by hand", check.house.strike(0, 10), 7);
+        check.refuses("done, as 5 strikes nothing, though 6 would strike 12", check.house.round(0), 5);
+        check.refuses("till", check.house.till(0, 7), 5);
+        check.gives("would", check.house.would(0, 8), 12);
         String[] open = {"from 0 by 2 many 9 lucky", "from 0 by 1 many 9 flavius", "from 0 by 2 many 4 ludic",
             "from 5 by 1 many 8 prime", "from 0 by 1 many 2 flavius", "from 5 by 1 many 2 fixed 99 rounds 1",
             "from 5 by 1 many 2 told 999", "from 5 by 1 many 6 lucky"};
@@ -224,8 +229,54 @@ public final class RoundsTest {
         for (int left = 7; left >= 0; left--) check.gives("undo", x.undo(), left);
         check.refuses("undo", x.undo(), 5);
         check.prints(0, "4-20");
+        undoUnlikeActs();
+        gapsComeBack();
+        check.begin("sieve a from 4 by 1 many 17 lucky;");
+        x = check.house;
         check.gives("strike anew", x.strike(0, 5), 2);
         check.gives("undo", x.undo(), 0);
         check.gives("number", x.number(0, 2), 5);
+    }
+
+    /** Twelve acts of all kinds, of which the last eight go back one by one. */
+    private static void undoUnlikeActs() {
+        check.begin("sieve a from 1 by 1 many 9 flavius; sieve b from 2 by 1 many 9 flavius;");
+        SieveHouse x = check.house;
+        x.strike(0, 1);
+        x.strike(1, 2);
+        x.make(0, 3, 3, 3);
+        x.drop(0);
+        check.gives("1: make", x.make(1, 4, 1, 9), 2);
+        check.gives("2: make", x.make(1, 5, 1, 9), 3);
+        check.gives("3: drop of four", x.drop(0), 3);
+        check.gives("4: strike", x.strike(1, 8), 5);
+        check.gives("5: drop", x.drop(0), 2);
+        check.gives("6: round", x.round(1), 4);
+        check.gives("7: make", x.make(2, 6, 1, 9), 2);
+        check.gives("8: longer", x.longer(2, 12), 12);
+        int[] sieves = {3, 2, 2, 3, 3, 4, 3, 2};
+        int[][] froms = {{4, 5, 6}, {4, 5}, {4, 5}, {3, 4, 5}, {3, 4, 5}, {2, 3, 4, 5}, {2, 3, 4}, {2, 3}};
+        int[][] sizes = {{8, 5, 9}, {8, 5}, {8, 9}, {3, 8, 9}, {3, 9, 9}, {8, 3, 9, 9}, {8, 3, 9}, {8, 3}};
+        for (int i = 0; i < 8; i++) {
+            check.gives("undo", x.undo(), 7 - i);
+            check.gives("sieves", x.many(0), sieves[i]);
+            for (int s = 0; s < sieves[i]; s++) {
+                check.gives("from of " + s + " behind undo " + i, x.sieve(s, 1), froms[i][s]);
+                check.gives("numbers of " + s + " behind undo " + i, x.sieve(s, 4), sizes[i][s]);
+            }
+        }
+        check.refuses("a ninth", x.undo(), 5);
+    }
+
+    private static void gapsComeBack() {
+        check.begin("sieve a from 1 by 2 many 20 lucky;");
+        SieveHouse x = check.house;
+        x.strike(0, 3);
+        check.gives("round", x.round(0), 3);
+        check.gives("longer", x.longer(0, 30), 20);
+        check.gives("3 is the gap now", x.told(0, 1, 0), 3);
+        check.gives("undo", x.undo(), 2);
+        check.gives("5 was the gap", x.told(0, 1, 0), 5);
+        check.gives("by hand", x.sieve(0, 7), 1);
     }
 }

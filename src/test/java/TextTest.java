@@ -89,6 +89,15 @@ public final class TextTest {
                 + "sieve c from 0 by 1 many 2 ludic;sieve d from 0 by 1 many 2 prime;"
                 + "list e 0 1 2 3 4 5 6 7 8 9999;list f 0;list g 9998 9999;"), 4);
         check.gives("lists", check.house.many(2), 3);
+        check.gives("ten numbers", check.house.list(0, -1), 10);
+        check.gives("one alone", check.load("list a 5;"), 0);
+        check.gives("lists", check.house.many(2), 1);
+        check.gives("one number", check.house.list(0, -1), 1);
+        check.gives("it", check.house.list(0, 0), 5);
+        check.gives("three gaps", check.load("sieve a from 0 by 1 many 9 told 7 7 7;"), 1);
+        check.gives("three rounds", check.house.all(0), 3);
+        check.gives("two gaps", check.load("sieve a from 0 by 1 many 9 told 7 7;"), 1);
+        check.gives("two rounds", check.house.all(0), 2);
         check.gives("twelve gaps", check.load("sieve a from 0 by 1 many 2 told 2 2 2 2 2 2 2 2 2 2 2 999;"), 1);
     }
 
@@ -138,6 +147,10 @@ public final class TextTest {
         check.faulty("list a 1 b", 2, 9);
         check.faulty("list a 1 ;;", 2, 10);
         check.faulty("list ;", 2, 5);
+        check.faulty("list a 1 list b 2;", 2, 9);
+        check.faulty("gist a 1;", 2, 0);
+        check.faulty("sieve a from 1 by 2 many 3 bucky;", 2, 27);
+        check.faulty("sieve a from 1 by 2 many 3 luck;", 2, 27);
         check.faulty(LINE + " sieve", 2, 41);
     }
 
@@ -165,6 +178,13 @@ public final class TextTest {
         check.faulty(LINE + "list a 2;", 4, 40);
         check.faulty("list b 1;" + LINE + " sieve b from", 4, 51);
         check.gives("longer and shorter names are others", check.load("list a 1; list ab 1; list b 1;"), 0);
+        check.faulty("list abc 1; list abc 2;", 4, 17);
+        check.faulty("list a 1; list b 1; sieve c from 0 by 1 many 2 lucky; sieve a", 4, 60);
+        check.faulty("list a 1; list b 1; sieve c from 0 by 1 many 2 lucky; list c", 4, 59);
+        check.faulty("list a 1; list b 1; sieve c from 0 by 1 many 2 lucky; list b", 4, 59);
+        check.gives("longer ahead of shorter, the last letters", check.load("list abz 1; list ab 1; list aby 1;"), 0);
+        check.expect("no fault", check.house.fault(0), 0);
+        check.expect("nor its place", check.house.fault(1), -1);
         check.gives("names are of one text alone", check.load("list a 1;"), 0);
     }
 
