@@ -12,6 +12,7 @@ public final class ComparedTest {
         lead();
         leadFromNought();
         alike();
+        alikeBehindShorter();
         through();
         list();
         fits();
@@ -49,6 +50,10 @@ public final class ComparedTest {
         x.strike(3, 1);
         x.strike(3, 7);
         check.refuses("alike", x.both(3, 2, 3), 5);
+        x = done();
+        x.make(1, 37, 2, 2);
+        check.gives("at the first one's end", x.both(0, 2, 0), 1);
+        check.gives("at the other one's head", x.both(2, 0, 0), 1);
         x = done();
         check.gives("with itself", x.both(0, 0, 0), 11);
         check.gives("with itself", x.both(0, 0, 1), 0);
@@ -125,6 +130,18 @@ public final class ComparedTest {
         check.gives("all", check.house.all(1), 4);
         check.house.all(0);
         check.gives("2 3 4 5 and 2 3 9 5", check.house.alike(0, 1), 2);
+    }
+
+    /** A shorter row has fewer rounds; those it had are no longer done. */
+    private static void alikeBehindShorter() {
+        check.begin("sieve a from 1 by 1 many 20 flavius; sieve b from 1 by 1 many 20 flavius;");
+        check.gives("all", check.house.all(0), 4);
+        check.gives("all", check.house.all(1), 4);
+        check.gives("alike", check.house.alike(0, 1), 4);
+        check.gives("1 3", check.house.longer(0, 4), 2);
+        check.gives("one round is left", check.house.alike(0, 1), 1);
+        check.gives("one round is left", check.house.alike(1, 0), 1);
+        check.refuses("no second round", check.house.told(0, 2, 0), 5);
     }
 
     private static void through() {

@@ -68,6 +68,7 @@ public final class GapsTest {
         check.refuses("gapsOf(1, 2)", x.gapsOf(1, 2), 2);
         int[] two = {1, 1, 1, 1};
         for (int what = 0; what < 4; what++) check.gives("gaps of two numbers", without(2).gaps(0, what), two[what]);
+        check.gives("the greatest at place 2", without(4, 3).gaps(0, 1), 2);
         x = without(10, 3, 6, 7);
         check.gives("gaps that come once count", x.gaps(0, 3), 3);
         check.gives("a greater one later", x.gaps(0, 1), 4);
@@ -277,6 +278,7 @@ public final class GapsTest {
         check.gives("5 6 7", x.spread(0, 3, 1), 3);
         x = without(9, 2, 4, 6);
         check.gives("the last ones", x.spread(0, 3, 1), 4);
+        check.gives("3 4", without(5, 2).spread(0, 2, 1), 2);
     }
 
     private static void sketch() {
