@@ -1026,10 +1026,20 @@ public final class SieveHouse {
         static int firstNoSum(Sieve sieve, int m) {
             int end = 2 * sieve.numberAt(sieve.size);
             int step = Math.max(m, 1);
+            int middle = 1;
             for (int n = 2 * sieve.numberAt(1); n <= end; n += step) {
-                if (waysToSum(sieve, n) == 0) return n;
+                while (middle < sieve.size && 2 * sieve.numberAt(middle + 1) <= n) middle++;
+                if (!isSum(sieve, n, middle)) return n;
             }
             return NONE;
+        }
+
+        /** Middle is the last place of half of n or less: in a full row two numbers next to it are found at once. */
+        static boolean isSum(Sieve sieve, int n, int middle) {
+            for (int place = middle; place >= 1; place--) {
+                if (sieve.has(n - sieve.numberAt(place))) return true;
+            }
+            return false;
         }
 
         static int progressionLength(Sieve sieve, int first, int d) {
@@ -1279,13 +1289,15 @@ public final class SieveHouse {
         }
 
         void forgetOldest() {
+            int last = actSieves.length - 1;
+            if (last < 0) return;
             Sieve spare = actSieves[0];
-            for (int i = 0; i + 1 < actSieves.length; i++) {
+            for (int i = 0; i < last; i++) {
                 put(actKinds, i, at(actKinds, i + 1));
                 put(actNumbers, i, at(actNumbers, i + 1));
                 actSieves[i] = actSieves[i + 1];
             }
-            actSieves[actSieves.length - 1] = spare;
+            actSieves[last] = spare;
             acts--;
         }
 
@@ -1570,8 +1582,8 @@ public final class SieveHouse {
         }
 
         boolean isReserved() {
-            return kindOfLaw() != NONE || is("sieve") || is("from") || is("by") || is("many")
-                    || is("rounds") || is("list");
+            return is("sieve") || is("from") || is("by") || is("many") || is("lucky") || is("flavius") || is("ludic")
+                    || is("prime") || is("fixed") || is("rounds") || is("told") || is("list");
         }
 
         boolean is(String word) {

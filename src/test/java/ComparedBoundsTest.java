@@ -12,6 +12,7 @@ public final class ComparedBoundsTest {
         leadAtNought();
         turns();
         alike();
+        alikeBehindShorter();
         through();
         list();
         fits();
@@ -102,6 +103,12 @@ public final class ComparedBoundsTest {
         script.begin("48: of ROUNDS both have done", "sieve a from 1 by 1 many 40 flavius; sieve b from 0 by 7 many 9 told 2 3 4 9 6; sieve c from 5 by 1 many 9 told 9 3 4;");
         script.asks("alike 0 1 = 0", "round 0 = 20", "alike 0 1 = 0", "round 1 = 4", "alike 0 1 = 1", "round 0 = 6", "alike 0 1 = 1", "round 1 = 1", "alike 0 1 = 2", "round 0 = 3", "round 1 = 1", "alike 0 1 = 3", "round 0 = 2", "alike 0 1 = 3", "round 1 = 0", "alike 0 1 = 3",
             "round 0 = 1", "round 1 = 0", "alike 0 1 = 3", "alike 1 0 = 3", "all 2 = 3", "alike 0 2 = 0", "undo = 7", "undo = 6", "undo = 5", "alike 0 1 = 3", "undo = 4", "alike 0 1 = 3", "undo = 3", "alike 0 1 = 3", "undo = 2", "alike 0 1 = 2");
+    }
+
+    /** A shorter ROW may have fewer ROUNDS: those it had are not done. */
+    private static void alikeBehindShorter() {
+        script.begin("48: ROUNDS that longer() left out", "sieve a from 1 by 1 many 20 flavius; sieve b from 1 by 1 many 20 flavius;");
+        script.asks("all 0 = 4", "all 1 = 4", "alike 0 1 = 4", "longer 0 4 = 2", "sieve 0 5 = 1", "alike 0 1 = 1", "alike 1 0 = 1", "undo = 2", "alike 0 1 = 4", "longer 1 2 = 1", "alike 0 1 = 1", "longer 0 3 = 2", "alike 0 1 = 1", "alike 1 0 = 1");
     }
 
     /** "the k-th number (from 0 on), or (k NONE) how many there are (1: k below NONE; 2; 5: not so many)". */

@@ -1,5 +1,6 @@
 import java.io.IOException;
 import java.lang.management.ManagementFactory;
+import java.lang.reflect.Array;
 import java.lang.reflect.Constructor;
 import java.lang.reflect.Field;
 import java.lang.reflect.Method;
@@ -7,7 +8,10 @@ import java.lang.reflect.Modifier;
 import java.nio.file.Files;
 import java.nio.file.Path;
 import java.util.ArrayList;
+import java.util.Collections;
+import java.util.IdentityHashMap;
 import java.util.List;
+import java.util.Set;
 import java.util.TreeSet;
 import java.util.regex.Matcher;
 import java.util.regex.Pattern;
@@ -26,6 +30,7 @@ public final class FormTest {
         words(withoutTexts(source));
         lengths(source);
         room();
+        roomOfNewObject();
         System.out.println("FormTest: " + looks + " looks, " + wrong + " wrong");
         if (wrong > 0) System.exit(1);
     }
@@ -140,6 +145,33 @@ public final class FormTest {
         callMany(check.house);
         long made = threads.getCurrentThreadAllocatedBytes() - ahead;
         holds("512 calls made " + made + " bytes", made < 100_000);
+    }
+
+    /** What a new object holds: no call makes more, so it is all the room that a run takes. */
+    private static void roomOfNewObject() throws IllegalAccessException {
+        Set<Object> objects = Collections.newSetFromMap(new IdentityHashMap<>());
+        long parts = partsOf(new SieveHouse(), objects);
+        holds("a new object holds " + objects.size() + " objects and arrays", objects.size() < 600_000 / 100);
+        holds("a new object holds " + parts + " fields and elements", parts < 7_300_000 / 100);
+    }
+
+    private static long partsOf(Object o, Set<Object> objects) throws IllegalAccessException {
+        if (o == null || !objects.add(o)) return 0;
+        long parts = 0;
+        if (o.getClass().isArray()) {
+            int length = Array.getLength(o);
+            for (int i = 0; i < length; i++) {
+                if (!o.getClass().getComponentType().isPrimitive()) parts += partsOf(Array.get(o, i), objects);
+            }
+            return parts + length;
+        }
+        for (Field f : o.getClass().getDeclaredFields()) {
+            if (Modifier.isStatic(f.getModifiers())) continue;
+            f.setAccessible(true);
+            if (!f.getType().isPrimitive()) parts += partsOf(f.get(o), objects);
+            parts++;
+        }
+        return parts;
     }
 
     private static void callMany(SieveHouse x) {

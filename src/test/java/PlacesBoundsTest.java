@@ -46,7 +46,7 @@ public final class PlacesBoundsTest {
     private static void fate() {
         script.begin("18: struck, not struck, never there", THREE);
         script.asks("fate 0 5 0 ! 5", "round 0 = 3", "fate 0 5 0 = 1", "fate 0 5 1 = 3", "fate 0 17 0 = 1", "fate 0 17 1 = 9", "fate 0 3 0 ! 5", "fate 0 1 1 ! 5",
-            "fate 0 19 0 ! 5", "fate 0 4 0 ! 5", "fate 0 -1 0 ! 5", "fate 0 0 1 ! 5", "fate 0 20 0 ! 5", "fate 0 21 0 ! 5", "fate 0 23 1 ! 5", "fate 0 least 0 ! 5", "fate 0 most 1 ! 5",
+            "fate 0 19 0 ! 5", "fate 0 4 0 ! 5", "fate 0 -1 0 ! 5", "fate 0 0 1 ! 5", "fate 0 -3 0 ! 5", "fate 0 -3 1 ! 5", "fate 2 -10 0 ! 5", "fate 0 20 0 ! 5", "fate 0 21 0 ! 5", "fate 0 23 1 ! 5", "fate 0 least 0 ! 5", "fate 0 most 1 ! 5",
             "fate 0 5 -1 ! 1", "fate 0 5 2 ! 1", "fate 0 5 least ! 1", "fate 0 5 most ! 1", "fate 3 5 2 ! 1", "fate 3 5 0 ! 2", "fate -1 5 0 ! 2", "fate 3 4 1 ! 2");
         script.asks("round 0 = 1", "fate 0 19 0 = 2", "fate 0 19 1 = 7", "undo = 1", "fate 0 19 0 ! 5", "fate 0 5 0 = 1", "longer 0 9 = 6", "fate 0 19 0 ! 5", "fate 0 17 1 = 9");
     }
@@ -135,6 +135,7 @@ public final class PlacesBoundsTest {
     private static void originAndHands() {
         script.begin("23: by hand ahead of the first ROUND", THREE);
         script.asks("strike 1 12 = 12", "round 1 = 4", "origin 1 7 = 11", "origin 1 8 ! 5", "round 1 = 1", "origin 1 6 = 11", "origin 1 7 ! 5");
+        script.asks("strike 2 0 = 1", "round 2 = 1", "origin 2 1 = 1", "origin 2 2 = 3", "origin 2 3 ! 5", "round 2 = 0", "origin 2 2 = 3");
         script.begin("23: by hand behind the latest ROUND: it is there yet", THREE);
         script.asks("round 1 = 5", "strike 1 11 = 7", "origin 1 7 = 11", "origin 1 8 ! 5", "undo = 1", "round 1 = 1", "strike 1 2 = 2", "strike 1 11 = 5", "origin 1 6 = 11", "origin 1 7 ! 5");
         script.begin("23: by hand between the first and the second ROUND", THREE);

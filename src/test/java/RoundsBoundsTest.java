@@ -29,6 +29,8 @@ public final class RoundsBoundsTest {
         undo();
         undoEachAct();
         undoEight();
+        undoEightUnlike();
+        undoWhatRoundsTold();
         noActs();
         loadForgets();
         script.end();
@@ -325,6 +327,23 @@ public final class RoundsBoundsTest {
         for (int n = 1; n < 10; n++) script.asks("strike 0 " + n + " = 1");
         for (int left = 7; left >= 0; left--) script.asks("undo = " + left);
         script.asks("undo ! 5", "number 0 1 = 2");
+    }
+
+    /** Ten acts of unlike kinds, of unlike SIEVES: the last eight go back, each as it was. */
+    private static void undoEightUnlike() {
+        script.begin("15: of ten unlike acts the last eight", THREE);
+        script.asks("round 0 = 3", "drop 1 = 2", "strike 1 0 = 1", "make 1 7 1 9 = 2", "drop 0 = 2", "longer 1 4 = 4", "make 2 8 1 9 = 2", "round 0 = 1", "drop 1 = 2", "strike 1 9 = 2", "many 1 = 8");
+        script.asks("undo = 7", "number 1 2 = 9", "sieve 1 7 = 0", "undo = 6", "many 0 = 3", "sieve 1 1 = 7", "sieve 1 3 = 4", "sieve 2 1 = 8", "undo = 5", "sieve 0 5 = 0", "sieve 0 7 = 1", "undo = 4", "many 0 = 2", "sieve 1 1 = 7",
+            "undo = 3", "sieve 1 3 = 9", "undo = 2", "many 0 = 3", "sieve 0 0 = 0", "sieve 0 5 = 1", "sieve 1 0 = 5", "sieve 2 1 = 7", "undo = 1", "many 0 = 2", "undo = 0", "rank 1 0 = 1", "sieve 1 4 = 4", "undo ! 5", "sieve 0 5 = 1", "sieve 1 0 = 5", "many 0 = 2");
+    }
+
+    /** What ROUNDS told comes back, though ROUNDS were done anew between. */
+    private static void undoWhatRoundsTold() {
+        script.begin("15: the GAPS, and which PLACES hands had spared", THREE);
+        script.asks("strike 0 3 = 2", "round 0 = 1", "strike 0 1 = 1", "told 0 1 0 = 5", "told 0 1 1 = 1", "told 0 1 2 = 11", "back 0 1 5 = 6", "fate 0 11 1 = 5", "longer 0 12 = 8", "told 0 1 0 = 3", "told 0 1 1 = 4", "told 0 1 2 = 5", "undo = 3",
+            "told 0 1 0 = 5", "told 0 1 1 = 1", "told 0 1 2 = 11", "told 0 1 3 = 8", "back 0 1 5 = 6", "ahead 0 1 6 = 5", "fate 0 11 0 = 1", "fate 0 11 1 = 5", "fate 0 1 0 = 0", "fate 0 3 1 = 2", "undo = 2", "undo = 1", "told 0 1 0 ! 5", "fate 0 11 0 ! 5", "fate 0 3 0 = 0");
+        script.begin("12: fixed ROUNDS, as many as were", "sieve a from 1 by 1 many 20 fixed 3 rounds 4;");
+        script.asks("round 0 = 6", "round 0 = 4", "longer 0 9 = 4", "sieve 0 5 = 2", "sieve 0 6 = 0", "all 0 = 2", "sieve 0 6 = 1", "told 0 4 0 = 3", "longer 0 20 = 5", "sieve 0 5 = 4", "round 0 ! 5");
     }
 
     /** Calls that are no ACTS, and acts that are refused. */

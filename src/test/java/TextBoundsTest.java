@@ -265,8 +265,19 @@ public final class TextBoundsTest {
             script.good("list " + ahead + " 1; list " + word + "s 1; list x" + word.substring(1) + " 1;", 0, 3);
             script.good("list " + ahead + "x 1; list s" + word + " 1; list " + word.substring(1) + " 1;", 0, 3);
         }
+        sameNames();
+    }
+
+    private static void sameNames() {
         String sieve = "sieve a from 1 by 1 many 2 lucky;";
         script.faulty("list a 1;list a 1;", 4, 14);
+        script.faulty("list a1;list a 1;", 4, 13);
+        script.faulty("list a 1;list a\n1;", 4, 14);
+        script.faulty("list abc 1;list abc 1;", 4, 16);
+        script.faulty("list abcdefgh 1;list abcdefgh 1;", 4, 21);
+        script.good("list x 1;list y 1;sieve z from 1 by 1 many 2 lucky;", 1, 2);
+        script.good("list abcdefgh 1;list abcdefgi 1;list bbcdefgh 1;", 0, 3);
+        script.good("list abcdefgh 1;list abcdefg 1;list bcdefgh 1;", 0, 3);
         script.faulty(sieve + "sieve a from", 4, 39);
         script.faulty(sieve + "list a 1;", 4, 38);
         script.faulty("list a 1;" + sieve, 4, 15);
@@ -337,6 +348,10 @@ public final class TextBoundsTest {
         script.faulty(twelve + " 999;", 5, 58);
         script.faulty(twelve + " a", 2, 58);
         script.faulty(twelve, 2, 57);
+        script.begin("1: the GAPS of a text ahead are over", "sieve a from 1 by 1 many 9 told 2 3 2 5; sieve b from 1 by 1 many 9 fixed 2 rounds 9;");
+        script.asks("all 0 = 4", "load 20 = 0");
+        script.loads("sieve a from 1 by 1 many 9 told 2; sieve b from 1 by 1 many 9 told 3 2;");
+        script.asks("all 0 = 1", "sieve 0 6 = 1", "told 0 2 0 ! 5", "all 1 = 2", "sieve 1 6 = 1");
     }
 
     /** "At most 3 LISTS, numbered from 0 on likewise". */
@@ -394,6 +409,13 @@ public final class TextBoundsTest {
         script.faulty("list a 1; list b 1; list c 1; lists", 2, 30);
         script.faulty("list a 1; list b 1; list c 1; listlistl", 1, 30);
         script.faulty("list list 1; list list 1;", 2, 5);
+        script.faulty("sieve 9999", 2, 6);
+        script.faulty("0", 2, 0);
+        script.faulty("list 0", 2, 5);
+        script.faulty("sieve a 1000", 2, 8);
+        script.faulty("sieve a from 1 by 1 many 9 lucky 0", 2, 33);
+        script.faulty("sieve a from 1 by 1 many 9 fixed 2 rounds 1 61", 2, 44);
+        script.faulty("list a 1; list b 1; list c 1; list", 5, 30);
     }
 
     /** "(the end of the text: its length)". */
