@@ -8,6 +8,8 @@ final class Marks {
     private static final int ROUNDS = 4;
     private static final int NUMBERS = 10;
     private static final int BYTES = 24;
+    /** More than are kept. */
+    private static final int ACTS = 12;
 
     final List<Integer> all = new ArrayList<>();
     private final SieveHouse house;
@@ -19,7 +21,7 @@ final class Marks {
         for (int s = 0; s < house.many(0); s++) sieve(s);
         for (int l = 0; l < house.many(2); l++) list(l);
         for (int i = 0; i < BYTES; i++) all.add(house.out(i));
-        while (house.undo() != SieveHouse.NONE) undone();
+        for (int i = 0; i < ACTS && house.undo() != SieveHouse.NONE; i++) undone();
         if (tapeAndFaultToo) tape();
     }
 

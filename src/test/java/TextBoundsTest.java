@@ -35,8 +35,8 @@ public final class TextBoundsTest {
     /** "No SIEVES; STATUS 0." "NONE .. ahead of any." */
     private static void newObject() {
         script.bare("1: a new object");
-        script.asks("status = 0", "many 0 = 0", "many 1 = 0", "many 2 = 0", "fault 0 = -1", "fault 1 = -1",
-            "fault 2 = -1", "status = 0", "undo ! 5", "out 0 ! 5", "load 1 ! 1", "load -1 ! 1", "load 0 = 0");
+        script.asks("status = 0", "many 0 = 0", "many 1 = 0", "many 2 = 0", "fault 0 = -1", "fault 1 = -1", "fault 2 = -1",
+            "status = 0", "undo ! 5", "out 0 ! 5", "load 1 ! 1", "load -1 ! 1", "load 0 = 0");
         script.bare("1: STATUS 0 ahead of any call");
         script.asks("fault 0 = -1", "status = 0", "feed 0 0 0 0 0 = 20", "status = 0");
     }
@@ -71,12 +71,11 @@ public final class TextBoundsTest {
     /** "STATUS of the latest call that has one." "status(), feed(), fault() have none." */
     private static void status() {
         script.begin("2: status, feed, fault have no STATUS", "sieve a from 1 by 1 many 2 flavius; list b 1;");
-        script.asks("many 3 ! 1", "status = 1", "feed 0 0 0 0 0 = 40", "status = 1", "fault 0 = 0", "status = 1",
-            "fault 2 = -1", "status = 1", "sieve 1 0 ! 2", "status = 2", "status = 2", "longer 0 2 ! 4", "status = 4",
-            "gap 0 2 ! 5", "status = 5", "fault 1 = -1", "status = 5", "many 2 = 1", "status = 0",
-            "make 0 0 1 2 = 1", "make 0 0 1 2 = 2", "make 0 0 1 2 = 3", "make 0 0 1 2 ! 3", "status = 3",
-            "feed 0 0 0 0 0 = 60", "status = 3", "load 60 ! 9", "status = 9", "fault 0 = 1", "status = 9",
-            "half 0 = 1", "status = 0");
+        script.asks("many 3 ! 1", "status = 1", "feed 0 0 0 0 0 = 40", "status = 1", "fault 0 = 0", "status = 1", "fault 2 = -1",
+            "status = 1", "sieve 1 0 ! 2", "status = 2", "status = 2", "longer 0 2 ! 4", "status = 4", "gap 0 2 ! 5", "status = 5",
+            "fault 1 = -1", "status = 5", "many 2 = 1", "status = 0", "make 0 0 1 2 = 1", "make 0 0 1 2 = 2", "make 0 0 1 2 = 3",
+            "make 0 0 1 2 ! 3", "status = 3", "feed 0 0 0 0 0 = 60", "status = 3", "load 60 ! 9", "status = 9", "fault 0 = 1",
+            "status = 9", "half 0 = 1", "status = 0");
         script.bare("3: nor has a feed() that is refused");
         for (int i = 0; i < 30; i++) script.feeds(BLANKS);
         script.asks("many 3 ! 1", "feed 0 0 0 0 0 = -1", "status = 1", "many 0 = 0", "feed 0 0 0 0 0 = -1", "status = 0");
@@ -131,7 +130,8 @@ public final class TextBoundsTest {
 
     /** With STATUS 0 all is what the text tells, with another one all stands. */
     private static void loadTakesOver() {
-        script.begin("4: load() takes the place of all that was told", "sieve a from 1 by 2 many 9 lucky; sieve b from 5 by 1 many 9 flavius; list c 1; list d 2;");
+        script.begin("4: load() takes the place of all that was told",
+            "sieve a from 1 by 2 many 9 lucky; sieve b from 5 by 1 many 9 flavius; list c 1; list d 2;");
         script.asks("round 0 = 3", "strike 0 7 = 3", "all 1 = 3", "load 21 ! 1", "many 1 = 3", "sieve 0 5 = 1", "load 20 = 0",
             "many 0 = 0", "many 1 = 0", "many 2 = 1", "list 0 0 = 7", "sieve 0 0 ! 2", "list 1 0 ! 2", "undo ! 5");
         script.loads("sieve a from 1 by 2 many 9 lucky;");
@@ -144,8 +144,8 @@ public final class TextBoundsTest {
         script.asks("load 1 ! 1", "fault 0 = -1", "fault 1 = -1", "load 0 = 0", "fault 0 = 0", "fault 1 = -1", "fault -1 = -1",
             "fault 2 = -1", "fault most = -1", "fault least = -1");
         script.feeds("  ?");
-        script.asks("load 3 ! 9", "fault 0 = 1", "fault 1 = 2", "fault 2 = -1", "fault -1 = -1", "load 1 ! 1", "fault 0 = 1", "fault 1 = 2",
-            "load 0 = 0", "fault 0 = 0", "fault 1 = -1");
+        script.asks("load 3 ! 9", "fault 0 = 1", "fault 1 = 2", "fault 2 = -1", "fault -1 = -1", "load 1 ! 1", "fault 0 = 1",
+            "fault 1 = 2", "load 0 = 0", "fault 0 = 0", "fault 1 = -1");
         script.feeds("list ;");
         script.asks("load 6 ! 9", "fault 0 = 2", "fault 1 = 5");
         script.feeds("?");
@@ -154,15 +154,18 @@ public final class TextBoundsTest {
 
     /** "SIEVES (what 0), ACTS that can be undone (1), LISTS (2) (1)." */
     private static void many() {
-        script.begin("6: what 0 to 2", "sieve a from 1 by 1 many 9 flavius; sieve b from 1 by 1 many 9 flavius; sieve c from 1 by 1 many 9 lucky; list d 1;");
+        script.begin("6: what 0 to 2",
+            "sieve a from 1 by 1 many 9 flavius; sieve b from 1 by 1 many 9 flavius; sieve c from 1 by 1 many 9 lucky; list d 1;");
         script.asks("many 0 = 3", "many 1 = 0", "many 2 = 1", "many -1 ! 1", "many 3 ! 1", "many least ! 1", "many most ! 1",
-            "round 0 = 4", "many 1 = 1", "drop 0 = 2", "many 0 = 2", "many 1 = 2", "many 2 = 1", "undo = 1", "many 0 = 3", "many 1 = 1");
+            "round 0 = 4", "many 1 = 1", "drop 0 = 2", "many 0 = 2", "many 1 = 2", "many 2 = 1", "undo = 1", "many 0 = 3",
+            "many 1 = 1");
     }
 
     /** "what 0: KIND .. 7: numbers struck by hand (1; 2)." */
     private static void sieve() {
         script.begin("7: what 0 to 7", "sieve a from 7 by 5 many 6 fixed 2 rounds 2; sieve b from 0 by 1 many 2 lucky;");
-        script.asks("sieve 0 0 = 4", "sieve 0 1 = 7", "sieve 0 2 = 5", "sieve 0 3 = 6", "sieve 0 4 = 6", "sieve 0 5 = 0", "sieve 0 6 = 0", "sieve 0 7 = 0");
+        script.asks("sieve 0 0 = 4", "sieve 0 1 = 7", "sieve 0 2 = 5", "sieve 0 3 = 6", "sieve 0 4 = 6", "sieve 0 5 = 0",
+            "sieve 0 6 = 0", "sieve 0 7 = 0");
         script.asks("sieve 0 -1 ! 1", "sieve 0 8 ! 1", "sieve 0 least ! 1", "sieve 0 most ! 1", "sieve 2 8 ! 1", "sieve -1 -1 ! 1",
             "sieve 2 7 ! 2", "sieve -1 0 ! 2");
         script.asks("sieve 1 6 = 1", "round 0 = 3", "sieve 0 5 = 1", "sieve 0 6 = 0", "round 0 = 1", "sieve 0 5 = 2", "sieve 0 6 = 1",
@@ -348,7 +351,8 @@ public final class TextBoundsTest {
         script.faulty(twelve + " 999;", 5, 58);
         script.faulty(twelve + " a", 2, 58);
         script.faulty(twelve, 2, 57);
-        script.begin("1: the GAPS of a text ahead are over", "sieve a from 1 by 1 many 9 told 2 3 2 5; sieve b from 1 by 1 many 9 fixed 2 rounds 9;");
+        script.begin("1: the GAPS of a text ahead are over",
+            "sieve a from 1 by 1 many 9 told 2 3 2 5; sieve b from 1 by 1 many 9 fixed 2 rounds 9;");
         script.asks("all 0 = 4", "load 20 = 0");
         script.loads("sieve a from 1 by 1 many 9 told 2; sieve b from 1 by 1 many 9 told 3 2;");
         script.asks("all 0 = 1", "sieve 0 6 = 1", "told 0 2 0 ! 5", "all 1 = 2", "sieve 1 6 = 1");
