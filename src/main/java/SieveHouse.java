@@ -25,6 +25,8 @@ public final class SieveHouse {
     private static final int GREATEST_MISS_STEP = 99;
     /** The greatest number a row can hold has five digits; behind each stands one sign. */
     private static final int MOST_OUT = 6 * MOST_NUMBERS;
+    /** Cells enough for every rest by the greatest divisor, and for two middles a number. */
+    private static final int MOST_SCRATCH = 2 * MOST_NUMBERS;
 
     private static final int CANNOT_BE = 1;
     private static final int NO_SUCH = 2;
@@ -47,7 +49,7 @@ public final class SieveHouse {
         shelf = new Shelf();
         printer = new Printer();
         trial = new Sieve();
-        scratch = new int[GREATEST_DIVISOR + 1];
+        scratch = new int[MOST_SCRATCH];
         status = 0;
     }
 
@@ -314,7 +316,7 @@ public final class SieveHouse {
         Sieve sieve = shelf.sieveAt(s);
         if (sieve == null) return fail(NO_SUCH);
         int turn = k == NONE ? sieve.size - 1 : k;
-        return answer(Spacing.struckFromRing(sieve, g, turn, scratch));
+        return answer(Spacing.struckFromRing(sieve, g, turn));
     }
 
     public int chain(int s, int n, int what) {
@@ -363,7 +365,7 @@ public final class SieveHouse {
         if (!within(what, 0, 1)) return fail(CANNOT_BE);
         Sieve sieve = shelf.sieveAt(s);
         if (sieve == null) return fail(NO_SUCH);
-        return answer(Spacing.longestMirror(sieve, what));
+        return answer(Spacing.longestMirror(sieve, what, scratch));
     }
 
     public int half(int s) {
@@ -565,7 +567,8 @@ public final class SieveHouse {
             events = 0;
             hands = 0;
             for (int i = 0; i < struckAt.length; i++) struckAt[i] = HERE;
-            closeUp();
+            for (int i = 0; i < many; i++) put(row, i, firstNumber(i));
+            size = many;
         }
 
         void takeOver(Sieve other) {
@@ -687,16 +690,22 @@ public final class SieveHouse {
         /** Does the next round, whose gap is told: how many it struck. */
         int sweep(int gap) {
             events++;
+            int left = 0;
             for (int place = 1; place <= size; place++) {
                 int number = numberAt(place);
-                if (strikesPlace(place, number, gap)) put(struckAt, indexOf(number), events);
+                if (strikesPlace(place, number, gap)) {
+                    put(struckAt, indexOf(number), events);
+                } else {
+                    put(row, left, number);
+                    left++;
+                }
             }
             rounds++;
             put(gapOfRound, rounds, gap);
             put(eventOfRound, rounds, events);
-            int before = size;
-            closeUp();
-            return before - size;
+            int struck = size - left;
+            size = left;
+            return struck;
         }
 
         /** Does rounds till the sieve is done or has had as many: how many it did. */
@@ -907,17 +916,14 @@ public final class SieveHouse {
             return best;
         }
 
-        static int struckFromRing(Sieve sieve, int g, int turn, int[] left) {
+        /** Led back from the ring that is left by then to the whole one, a struck number at a time: none need be struck. */
+        static int struckFromRing(Sieve sieve, int g, int turn) {
             if (turn >= sieve.size) return NONE;
-            copyCells(sieve.row, left);
-            int count = sieve.size;
-            long position = 0;
-            for (int struck = 0; struck < turn && count > 1; struck++) {
-                position = (position + g - 1) % count;
-                for (int i = (int) position; i < count - 1; i++) put(left, i, at(left, i + 1));
-                count--;
+            long position = -1;
+            for (int count = sieve.size - turn; count > 0 && count <= sieve.size; count++) {
+                position = (position + g) % count;
             }
-            return count > 0 ? at(left, (int) ((position + g - 1) % count)) : NONE;
+            return sieve.numberAt((int) position + 1);
         }
 
         static int chainFrom(Sieve sieve, int n, int what, int[] cameAtPlace) {
@@ -959,28 +965,39 @@ public final class SieveHouse {
             return count;
         }
 
-        static int longestMirror(Sieve sieve, int what) {
+        /** A middle is the places of a mirror's first and last gap together: there are some between two gaps, too. */
+        static int longestMirror(Sieve sieve, int what, int[] lengths) {
             int most = 0;
             int best = NONE;
-            for (int middle = 1; middle < sieve.size; middle++) {
-                for (int even = 0; even <= 1; even++) {
-                    int reach = mirrorReach(sieve, middle, middle + even);
-                    int length = 2 * reach + even - 1;
-                    if (length > most) {
-                        most = length;
-                        best = middle - reach + 1;
-                    }
+            int outer = 0;
+            int end = 0;
+            for (int middle = 2; middle <= 2 * (sieve.size - 1); middle++) {
+                // what lies in a mirror around it is known from that mirror's other half: no gap is looked at anew
+                int known = Math.min(at(lengths, 2 * outer - middle), 2 * end - middle + 1);
+                int length = mirrorLength(sieve, middle, Math.max(known, (middle + 1) % 2));
+                put(lengths, middle, length);
+                int last = (middle + length - 1) / 2;
+                if (last > end) {
+                    end = last;
+                    outer = middle;
+                }
+                if (length > most) {
+                    most = length;
+                    best = last - length + 1;
                 }
             }
             return what == 1 || best == NONE ? best : most;
         }
 
-        /** How many gaps, from two places outward, are the same on both sides. */
-        static int mirrorReach(Sieve sieve, int low, int high) {
-            int reach = 0;
-            while (low - reach >= 1 && high + reach < sieve.size
-                    && sieve.gapAt(low - reach) == sieve.gapAt(high + reach)) reach++;
-            return reach;
+        /** How far a mirror, known up to a length, goes on both sides. */
+        static int mirrorLength(Sieve sieve, int middle, int length) {
+            int first = (middle - length + 1) / 2;
+            int last = first + length - 1;
+            while (first > 1 && last + 1 < sieve.size && sieve.gapAt(first - 1) == sieve.gapAt(last + 1)) {
+                first--;
+                last++;
+            }
+            return last - first + 1;
         }
     }
 

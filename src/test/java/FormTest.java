@@ -29,6 +29,7 @@ public final class FormTest {
         String source = Files.readString(SOURCE);
         words(withoutTexts(source));
         lengths(source);
+        signs(source);
         room();
         roomOfNewObject();
         System.out.println("FormTest: " + looks + " looks, " + wrong + " wrong");
@@ -69,6 +70,9 @@ public final class FormTest {
         }
         holds("the face is " + there + ", due is " + due, there.equals(due) && due.size() == 57);
         holds("SieveHouse is public and final", Modifier.isPublic(c.getModifiers()) && Modifier.isFinal(c.getModifiers()));
+        for (Class<?> inside : c.getDeclaredClasses()) {
+            for (Method m : inside.getDeclaredMethods()) hidden.add(m.getName());
+        }
         for (String name : hidden) holds("a private method bears the public name " + name, !open.contains(name));
     }
 
@@ -132,6 +136,13 @@ public final class FormTest {
             int end = i;
             while (end < lines.length && !lines[end].equals(m.group(1) + "}")) end++;
             holds("sixty lines at most: " + lines[i].trim(), end - i < 60);
+        }
+    }
+
+    private static void signs(String source) {
+        for (int i = 0; i < source.length(); i++) {
+            char c = source.charAt(i);
+            if (c != 10 && (c < 32 || c > 126)) holds("the sign " + (int) c, false);
         }
     }
 
