@@ -1,8 +1,8 @@
 import java.util.List;
 
 /**
- * Promises 8 to 55 of everything that is small: every row that hands can leave of a few numbers, every two such rows
- * side by side, every law's rounds from every small beginning with a hand ahead of, between and behind them.
+ * Promises 8 to 55 of what is small: every row that hands can leave of a few numbers, every two such rows side by
+ * side, rounds of every law from small beginnings with each number struck by hand ahead of, between or behind them.
  */
 public final class EveryRowTest {
     private static final int FLAVIUS = 1;

@@ -2,8 +2,8 @@ import java.util.ArrayList;
 import java.util.List;
 
 /**
- * Promises 4 and 5 of every text that is one step off a good one: every byte another one, every token another one,
- * one more or one less, every length of it, every line told too often.
+ * Promises 4 and 5 of texts that are one step off some good ones: each byte another one, each token another one,
+ * one more or one less, each length, two tokens at once (each seventh mix), sieves and lists told too often.
  */
 public final class EveryTextTest {
     private static final Twin twin = new Twin("EveryTextTest");
